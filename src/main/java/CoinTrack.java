@@ -473,8 +473,12 @@ public final class CoinTrack {
         }
 
         boolean letsFall(int test, int diameter, int weight, int edge, int shift) {
-            int bound = ofTest(test, BOUND) + shift;
-            switch (ofTest(test, SORT)) {
+            int at = test * TEST_WIDTH;
+            if (at < 0 || at + TEST_WIDTH > testRows.length) {
+                return false;
+            }
+            int bound = testRows[at + BOUND] + shift;
+            switch (testRows[at + SORT]) {
                 case HOLE:
                     return diameter <= bound;
                 case SCALE:

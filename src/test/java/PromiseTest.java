@@ -29,6 +29,7 @@ public final class PromiseTest {
         track();
         fewest();
         order();
+        planningWithWornCoins();
         sees();
         forget();
         suspects();
@@ -653,6 +654,14 @@ public final class PromiseTest {
         due.is("18 the hole behind", apart.order(1), 0);
     }
 
+    private static void planningWithWornCoins() {
+        CoinTrack x = told("coin 20 30 0 5 1; coin 20 27 1 0 1; scale 27 1; rim 1 1;");
+        due.is("17 the scale would mix worn ones with the others", x.track(0), 0);
+        due.is("17 fewest: the rim", x.track(4), 2);
+        due.is("18 price, the worn ones too", x.order(-1), 2 + 1);
+        due.is("18 the rim ahead of the scale", x.order(0), 1);
+    }
+
     private static void sees() {
         CoinTrack x = new CoinTrack();
         int[][] bad = {
@@ -751,6 +760,8 @@ public final class PromiseTest {
         due.is("22 two are left", x.suspects(0), 2);
         due.is("22 no coin tells them apart: the least", x.look(), 0);
         due.is("22 nothing is changed", x.count(4), 3);
+        CoinTrack first = told("coin 5 9 0 0 1; coin 20 9 0 0 1; hole 20 1;");
+        due.is("22 bin 0 is one and the same bin too", first.look(), 10);
         CoinTrack two = told("coin 5 9 0 0 1; coin 6 9 0 0 1; hole 5 1; hole 9 1;");
         two.sees(0, 0, 1);
         due.is("22 one suspect at most", two.look(), NONE);
