@@ -4,6 +4,7 @@ import java.util.Random;
 public final class ModelTest {
     private static final int RUNS = 600;
     private static final int CALLS = 512;
+    private static final int PLANS = 1500;
 
     private static final Due due = new Due();
 
@@ -25,6 +26,9 @@ public final class ModelTest {
         for (int seed = 0; seed < RUNS && due.wrong() == 0; seed++) {
             new ModelTest(seed).run();
         }
+        for (int seed = 0; seed < PLANS && due.wrong() == 0; seed++) {
+            new ModelTest(RUNS + seed).plan();
+        }
         due.end();
     }
 
@@ -34,6 +38,47 @@ public final class ModelTest {
         }
         while (calls < CALLS && due.wrong() == 0) {
             act();
+        }
+    }
+
+    /** Many kinds, far from one another, and many tests that tell them apart: then there often is an order. */
+    private void plan() {
+        int kinds = 2 + below(5);
+        StringBuilder text = new StringBuilder();
+        for (int k = 0; k < kinds; k++) {
+            int wear = below(3) == 0 ? below(10) : 0;
+            text.append("coin").append(10 + below(9) * 10).append(' ').append(10 + below(9) * 10).append(' ')
+                    .append(below(3)).append(' ').append(wear).append(' ').append(below(100)).append(';');
+        }
+        tell(text.toString());
+        int tests = Math.min(6, kinds - 1 + below(4));
+        for (int t = 0; t < tests; t++) {
+            int sort = below(3);
+            int bound = sort == 2 ? below(3) : track.kind(below(kinds), sort) - (below(3) == 0 ? below(9) : 0);
+            int cost = 1 + below(9);
+            due("puts()", track.puts(t, sort, bound, cost), model.puts(t, sort, bound, cost));
+        }
+        askAll(kinds);
+    }
+
+    private void askAll(int kinds) {
+        for (int what = 0; what <= 4; what++) {
+            due("track(" + what + ")", track.track(what), model.track(what));
+        }
+        for (int k = 0; k < kinds; k++) {
+            for (int what = 5; what <= 7; what++) {
+                due("kind(" + k + ", " + what + ")", track.kind(k, what), model.kind(k, what));
+            }
+        }
+        boolean none = track.order(-1) == CoinTrack.NONE;
+        for (int k = -1; k <= (none ? 0 : 6); k++) {
+            due("order(" + k + ")", track.order(k), model.order(k));
+        }
+        for (int i = 0; i < 4; i++) {
+            due("look()", track.look(), model.look());
+            see();
+            due("suspects(0)", track.suspects(0), model.suspects(0));
+            due("suspects(1)", track.suspects(1), model.suspects(1));
         }
     }
 
