@@ -619,23 +619,28 @@ public final class CoinTrack {
         int known = 0;
 
         void remember(Track track) {
-            if (ring[next] == null) {
-                ring[next] = new Track();
+            int place = isPlace(next) ? next : 0;
+            if (ring[place] == null) {
+                ring[place] = new Track();
             }
-            ring[next].copyFrom(track);
-            next = next < ring.length - 1 ? next + 1 : 0;
+            ring[place].copyFrom(track);
+            next = isPlace(place + 1) ? place + 1 : 0;
             known = Math.min(known + 1, ring.length);
         }
 
         boolean recall(Track track) {
-            int latest = next > 0 ? next - 1 : ring.length - 1;
-            if (known <= 0 || ring[latest] == null) {
+            int latest = isPlace(next - 1) ? next - 1 : ring.length - 1;
+            if (known <= 0 || !isPlace(latest) || ring[latest] == null) {
                 return false;
             }
             track.copyFrom(ring[latest]);
             next = latest;
             known--;
             return true;
+        }
+
+        boolean isPlace(int place) {
+            return place >= 0 && place < ring.length;
         }
     }
 
@@ -963,10 +968,14 @@ public final class CoinTrack {
                 return NONE;
             }
             int passed = 0;
-            for (int i = 0; i < place && passed < SETS; i++) {
-                passed |= 1 << nextTest[passed];
+            for (int i = 0; i < place; i++) {
+                passed |= 1 << testBehind(passed);
             }
-            return passed < SETS ? nextTest[passed] : NONE;
+            return testBehind(passed);
+        }
+
+        int testBehind(int passed) {
+            return passed >= 0 && passed < nextTest.length ? nextTest[passed] : 0;
         }
     }
 
