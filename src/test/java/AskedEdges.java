@@ -17,6 +17,7 @@ final class AskedEdges {
         scale(e);
         rim(e);
         fromTestZeroOn(e);
+        binOfTest(e);
         fallsAtNone(e);
         toll(e);
         falseCoin(e);
@@ -148,7 +149,9 @@ final class AskedEdges {
         e.beyondInEach("d", 1, 99, (x, n) -> x.coin(n, 1, 0, 0), BAD);
         e.beyondInEach("w", 1, 99, (x, n) -> x.coin(1, n, 0, 0), BAD);
         e.beyondInEach("e", 0, 2, (x, n) -> x.coin(1, 1, n, 0), BAD);
+        e.sentence(16, "TOLL (2). BAD.");
         e.beyondInEach("what", 0, 2, (x, n) -> x.coin(1, 1, 0, n), BAD);
+        e.sentence(16, "the BIN into which it falls (what = 0)");
         CoinTrack x = Edges.laden();
         e.is("the least", x.coin(1, 1, 0, 0), 0);
         e.is("the greatest", x.coin(99, 99, 2, 0), 3);
@@ -195,6 +198,17 @@ final class AskedEdges {
         e.is("from TEST 4 on", x.coin(21, 20, 2, 0), 4);
         e.is("at the last one alone", x.coin(21, 21, 2, 0), 5);
         e.is("at none", x.coin(21, 21, 0, 0), 6);
+    }
+
+    private static void binOfTest(Edges e) {
+        e.sentence(16, "It falls into the BIN that has the TEST's number");
+        for (int test = 0; test < 6; test++) {
+            CoinTrack x = Edges.told(Edges.times("rim1 1;", test) + "rim0 1;" + Edges.times("rim1 1;", 5 - test));
+            e.is("TEST " + test, x.coin(9, 9, 0, 0), test);
+            x.adds(9, 9, 0, 0);
+            e.is("TEST " + test + ", DROPPED", x.drops(0, 0), test);
+            e.is("TEST " + test + ", its coin", x.bin(test, 1), 1);
+        }
     }
 
     private static void fallsAtNone(Edges e) {

@@ -10,17 +10,23 @@ final class DoneEdges {
         jamAtBin(e);
         coinInNone(e);
         jamRefusesDrops(e);
+        droppedWithoutJam(e);
         frees(e);
+        coinGivenBack(e);
         freesWithoutJam(e);
         empties(e);
+        noneAnyMore(e);
         emptiesBeyond(e);
         emptiesNone(e);
         jamStaysAtEmptied(e);
         putsAtPlaces(e);
+        putsMoves(e);
         putsNumbers(e);
         putsBeyond(e);
         putsFull(e);
         takes(e);
+        takesMoves(e);
+        takesLeavesNothing(e);
         takesBeyond(e);
         sets(e);
         setsBeyond(e);
@@ -28,6 +34,7 @@ final class DoneEdges {
         adds(e);
         addsBeyond(e);
         addsFull(e);
+        sixKindsAtMost(e);
         binsEmptiedByDeeds(e);
         binsKeptByDeeds(e);
     }
@@ -118,9 +125,23 @@ final class DoneEdges {
         e.refused("a coin of a BIN that has none", Edges::jammed, x -> x.drops(1, 0), STATE);
         e.refused("BAD goes ahead, KIND", Edges::jammed, x -> x.drops(2, 0), BAD);
         e.refused("BAD goes ahead, x", Edges::jammed, x -> x.drops(0, 4), BAD);
-        CoinTrack x = Edges.jammed();
-        x.frees();
-        e.is("no JAM any more", x.drops(1, 9), 1);
+    }
+
+    private static void droppedWithoutJam(Edges e) {
+        e.sentence(5, "DROPPED, a coin (if there is no JAM)");
+        CoinTrack freed = Edges.jammed();
+        e.is("a JAM", freed.drops(1, 9), STATE);
+        freed.frees();
+        e.is("FREED", freed.drops(1, 9), 1);
+        CoinTrack undone = Edges.jammed();
+        undone.undo();
+        e.is("the JAM UNDONE", undone.drops(1, 9), 1);
+        CoinTrack set = Edges.jammed();
+        set.sets(2, 0);
+        e.is("a BOUND made another one", set.drops(0, 0), 0);
+        CoinTrack back = Edges.jammed();
+        back.back(0);
+        e.is("back to an IMAGE without a JAM", back.drops(0, 0), 0);
     }
 
     // ---- promise 6
@@ -133,8 +154,20 @@ final class DoneEdges {
             x.drops(0, 0);
             e.is("at BIN " + tests, x.frees(), tests);
             e.is("no JAM any more at " + tests, x.track(3), NONE);
-            e.is("the coin is given back, BIN " + tests, x.bin(tests, 1), 1);
-            e.is("the BIN is as full as it was, " + tests, x.drops(0, 0), 100 + tests);
+        }
+    }
+
+    private static void coinGivenBack(Edges e) {
+        e.sentence(6, "FREED: no JAM any more (the coin is given back).");
+        for (int tests = 0; tests <= 6; tests++) {
+            CoinTrack x = Edges.told("coin 9 9 0 0 1; room 1;" + Edges.times("rim 1 1;", tests));
+            x.drops(0, 0);
+            x.drops(0, 0);
+            x.frees();
+            e.is("the BIN has no more than it had, BIN " + tests, x.bin(tests, 1), 1);
+            e.is("nor has any other, BIN " + tests, x.count(3), 1);
+            e.is("it is full still, BIN " + tests, x.drops(0, 0), 100 + tests);
+            e.is("FREED again, BIN " + tests, x.frees(), tests);
         }
     }
 
@@ -163,17 +196,24 @@ final class DoneEdges {
         e.sentence(7, "EMPTIED: how many coins the BIN had.");
         CoinTrack x = Edges.laden();
         e.is("one", x.empties(0), 1);
-        e.is("it has none", x.bin(0, 1), 0);
-        e.is("another BIN keeps its own", x.bin(1, 1), 1);
         CoinTrack most = Edges.told("coin 9 9 0 0 1; room 99;");
         for (int i = 0; i < 99; i++) {
             most.drops(0, 0);
         }
         e.is("99, the only BIN", most.empties(0), 99);
-        e.is("it takes coins again", most.drops(0, 0), 0);
         CoinTrack last = Edges.told("coin 9 9 0 0 1;" + Edges.times("rim 1 1;", 6));
         last.drops(0, 0);
         e.is("the last BIN of seven", last.empties(6), 1);
+    }
+
+    private static void noneAnyMore(Edges e) {
+        e.sentence(7, "EMPTIED: a BIN has none any more.");
+        CoinTrack x = Edges.full();
+        e.is("a BIN that is full", x.empties(3), 1);
+        e.is("it has none", x.bin(3, 1), 0);
+        e.is("another BIN keeps its own", x.bin(5, 1), 1);
+        e.is("it takes a coin again", x.drops(2, 0), 3);
+        e.is("and is full again", x.drops(2, 0), 103);
     }
 
     private static void emptiesBeyond(Edges e) {
@@ -212,7 +252,7 @@ final class DoneEdges {
 
     // ---- promise 8
 
-    private static int[] sorts(CoinTrack x) {
+    private static int[] bounds(CoinTrack x) {
         int[] bounds = new int[x.count(1)];
         for (int test = 0; test < bounds.length; test++) {
             bounds[test] = x.test(test, 1);
@@ -225,15 +265,27 @@ final class DoneEdges {
         CoinTrack x = new CoinTrack();
         e.is("place 0 of none", x.puts(0, 0, 10, 1), 1);
         e.is("behind the only one", x.puts(1, 1, 20, 2), 2);
-        e.row("behind", sorts(x), 10, 20);
         e.is("ahead of all", x.puts(0, 2, 0, 3), 3);
-        e.row("those from there on move by one", sorts(x), 0, 10, 20);
         e.is("between", x.puts(1, 0, 30, 4), 4);
-        e.row("those behind move, the one ahead stays", sorts(x), 0, 30, 10, 20);
         e.is("ahead of the last", x.puts(3, 1, 40, 5), 5);
-        e.row("the last moves", sorts(x), 0, 30, 10, 40, 20);
         e.is("the sixth, behind all", x.puts(5, 0, 50, 6), 6);
-        e.row("none moves", sorts(x), 0, 30, 10, 40, 20, 50);
+        e.is("as many as there are", x.count(1), 6);
+    }
+
+    private static void putsMoves(Edges e) {
+        e.sentence(8, "a TEST put in at a place (those from there on move by one)");
+        CoinTrack x = new CoinTrack();
+        x.puts(0, 0, 10, 1);
+        x.puts(1, 1, 20, 2);
+        e.row("put in behind all: none moves", bounds(x), 10, 20);
+        x.puts(0, 2, 0, 3);
+        e.row("put in ahead of all: all move", bounds(x), 0, 10, 20);
+        x.puts(1, 0, 30, 4);
+        e.row("put in between: the one ahead stays", bounds(x), 0, 30, 10, 20);
+        x.puts(3, 1, 40, 5);
+        e.row("put in ahead of the last: it alone moves", bounds(x), 0, 30, 10, 40, 20);
+        x.puts(5, 0, 50, 6);
+        e.row("the sixth, behind all", bounds(x), 0, 30, 10, 40, 20, 50);
         int[] costs = {3, 4, 1, 5, 2, 6};
         int[] sorts = {2, 0, 0, 1, 1, 0};
         for (int test = 0; test < 6; test++) {
@@ -285,18 +337,31 @@ final class DoneEdges {
         e.sentence(9, "A TEST is taken out: how many are left.");
         CoinTrack x = Edges.told("hole 10 1; hole 20 2; scale 30 3; rim 0 4; hole 50 5; scale 60 6;");
         e.is("the last of six", x.takes(5), 5);
-        e.row("none moves", sorts(x), 10, 20, 30, 0, 50);
-        e.is("the first", x.takes(0), 4);
-        e.row("all move by one", sorts(x), 20, 30, 0, 50);
+        e.is("the first of five", x.takes(0), 4);
         e.is("one between", x.takes(1), 3);
-        e.row("those behind move by one", sorts(x), 20, 0, 50);
-        e.is("SORT moves too", x.test(1, 0), 2);
-        e.is("COST moves too", x.test(1, 2), 4);
-        x.takes(0);
-        x.takes(1);
+        e.is("the first of three", x.takes(0), 2);
+        e.is("the last of two", x.takes(1), 1);
         e.is("the only one", x.takes(0), 0);
         e.is("none is left", x.count(1), 0);
         e.is("one BIN is left", x.bin(1, 0), BAD);
+        e.is("none can be taken out any more", x.takes(0), BAD);
+    }
+
+    private static void takesMoves(Edges e) {
+        e.sentence(9, "taken out (those behind move by one)");
+        CoinTrack x = Edges.told("hole 10 1; hole 20 2; scale 30 3; rim 0 4; hole 50 5; scale 60 6;");
+        x.takes(5);
+        e.row("the last taken out: none moves", bounds(x), 10, 20, 30, 0, 50);
+        x.takes(0);
+        e.row("the first taken out: all move", bounds(x), 20, 30, 0, 50);
+        x.takes(1);
+        e.row("one between taken out: the one ahead stays", bounds(x), 20, 0, 50);
+        e.is("SORT moves too", x.test(1, 0), 2);
+        e.is("COST moves too", x.test(1, 2), 4);
+    }
+
+    private static void takesLeavesNothing(Edges e) {
+        e.sentence(9, "A TEST is taken out: how many are left.");
         for (int test = 0; test <= 2; test++) {
             CoinTrack y = Edges.told("coin 50 60 1 9 7; coin 50 55 0 0 9; scale 55 3; scale 55 3; scale 55 3;");
             y.takes(test);
@@ -325,9 +390,9 @@ final class DoneEdges {
         e.is("a scale, from the least", x.sets(1, 99), 1);
         e.is("a rim, from the least", x.sets(2, 2), 0);
         e.is("a rim, from the greatest", x.sets(2, 0), 2);
-        e.row("what they are", sorts(x), 1, 99, 0);
+        e.row("what they are", bounds(x), 1, 99, 0);
         e.is("another by 1", x.sets(0, 2), 1);
-        e.row("no other BOUND changes", sorts(x), 2, 99, 0);
+        e.row("no other BOUND changes", bounds(x), 2, 99, 0);
         e.is("SORT stays", x.test(0, 0), 0);
         e.is("COST stays", x.test(0, 2), 1);
     }
@@ -404,6 +469,19 @@ final class DoneEdges {
         x.undo();
         e.is("the sixth again", x.adds(2, 2, 0, 0), 5);
         e.is("no seventh", x.adds(2, 2, 0, 0), FULL);
+    }
+
+    private static void sixKindsAtMost(Edges e) {
+        e.sentence(11, "(6 at most; none at first) of coins");
+        for (int told = 0; told <= 6; told++) {
+            CoinTrack x = Edges.told(Edges.times("coin1 1 0 0 0;", told));
+            for (int kind = told; kind < 6; kind++) {
+                e.is(told + " told, KIND " + kind, x.adds(9, 9, 0, 8), kind);
+            }
+            e.is(told + " told, a seventh", x.adds(9, 9, 0, 8), FULL);
+            e.is(told + " told, six", x.count(0), 6);
+            e.is(told + " told, no KIND 6", x.kind(6, 0), BAD);
+        }
     }
 
     // ---- what deeds do to the bins

@@ -12,6 +12,7 @@ public final class EdgesTest {
         PlannedEdges.lookAt(e);
         OffEdges.lookAt(e);
         ImageEdges.lookAt(e);
+        RefusedEdges.lookAt(e);
         e.end();
     }
 }

@@ -108,9 +108,12 @@ final class FaultEdges {
     private static void letters(Edges e) {
         e.sentence(4, "rows of letters a to z");
         fault(e, "`room 5;", 0);
-        fault(e, "room{5;", 4);
         fault(e, "Room 5;", 0);
         fault(e, "rooM 5;", 0);
+        for (char beside : new char[] {'`', '{', '@', 'A', 'M', 'Z', '[', (char) ('m' + 128)}) {
+            fault(e, "room" + beside + "5;", 4);
+            fault(e, "room 5" + beside + ";", 6);
+        }
         fault(e, "room 5;Z", 7);
         fault(e, "room 5;a", 7);
         fault(e, "room 5;z", 7);

@@ -3,7 +3,10 @@ import java.util.Random;
 /** Long runs of calls, drawn from fixed seeds, on the class and on the plain model: the answers are the same. */
 public final class ModelTest {
     private static final int RUNS = 600;
+    /** No more calls of one object are promised, so what else must be known is asked of the model. */
     private static final int CALLS = 512;
+    /** A text is cleared, typed and told. */
+    private static final int MOST_CALLS_OF_AN_ACT = 160;
     private static final int PLANS = 1500;
 
     private static final Due due = new Due();
@@ -36,8 +39,11 @@ public final class ModelTest {
         if (random.nextInt(4) != 0) {
             tell(goodText());
         }
-        while (calls < CALLS && due.wrong() == 0) {
+        while (calls <= CALLS - MOST_CALLS_OF_AN_ACT && due.wrong() == 0) {
             act();
+        }
+        while (calls < CALLS && due.wrong() == 0) {
+            question();
         }
     }
 
@@ -54,7 +60,7 @@ public final class ModelTest {
         int tests = Math.min(6, kinds - 1 + below(4));
         for (int t = 0; t < tests; t++) {
             int sort = below(3);
-            int bound = sort == 2 ? below(3) : track.kind(below(kinds), sort) - (below(3) == 0 ? below(9) : 0);
+            int bound = sort == 2 ? below(3) : model.kind(below(kinds), sort) - (below(3) == 0 ? below(9) : 0);
             int cost = 1 + below(9);
             due("puts()", track.puts(t, sort, bound, cost), model.puts(t, sort, bound, cost));
         }
@@ -70,7 +76,7 @@ public final class ModelTest {
                 due("kind(" + k + ", " + what + ")", track.kind(k, what), model.kind(k, what));
             }
         }
-        boolean none = track.order(-1) == CoinTrack.NONE;
+        boolean none = model.order(-1) == CoinTrack.NONE;
         for (int k = -1; k <= (none ? 0 : 6); k++) {
             due("order(" + k + ")", track.order(k), model.order(k));
         }
@@ -197,7 +203,7 @@ public final class ModelTest {
                 break;
             case 4: due("takes(" + a + ")", track.takes(a), model.takes(a)); break;
             case 5:
-                b = bound(Math.max(0, track.test(a, 0)));
+                b = bound(Math.max(0, model.test(a, 0)));
                 due("sets(" + a + ", " + b + ")", track.sets(a, b), model.sets(a, b));
                 break;
             case 6:
@@ -215,7 +221,7 @@ public final class ModelTest {
     }
 
     private void putATest() {
-        int place = near(0, Math.max(0, track.count(1)));
+        int place = near(0, Math.max(0, model.count(1)));
         int sort = near(0, 2);
         int bound = bound(sort);
         int cost = near(1, 9);
@@ -257,7 +263,7 @@ public final class ModelTest {
             case 5:
                 // The model tries all orders, which takes long: it is asked for fewer of the great ones.
                 a = near(-1, 6);
-                if (track.count(1) < 6 || below(4) == 0) {
+                if (model.count(1) < 6 || below(4) == 0) {
                     due("order(" + a + ")", track.order(a), model.order(a));
                 }
                 break;
@@ -292,12 +298,12 @@ public final class ModelTest {
 
     /** Mostly what is so, for else there is soon no suspect. */
     private void see() {
-        int kind = near(0, Math.max(0, track.count(0) - 1));
-        int x = near(0, Math.max(0, track.kind(kind, 3)));
+        int kind = near(0, Math.max(0, model.count(0) - 1));
+        int x = near(0, Math.max(0, model.kind(kind, 3)));
         int bin = near(0, 6);
-        if (below(8) != 0 && track.kind(kind, 0) > 0 && x >= 0 && x < track.kind(kind, 1)) {
-            int weight = track.kind(kind, 1) - x + (below(4) == 0 ? 1 : 0);
-            bin = track.coin(track.kind(kind, 0), Math.min(99, weight), track.kind(kind, 2), 0);
+        if (below(8) != 0 && model.kind(kind, 0) > 0 && x >= 0 && x < model.kind(kind, 1)) {
+            int weight = model.kind(kind, 1) - x + (below(4) == 0 ? 1 : 0);
+            bin = model.coin(model.kind(kind, 0), Math.min(99, weight), model.kind(kind, 2), 0);
         }
         due("sees(" + kind + ", " + x + ", " + bin + ")", track.sees(kind, x, bin), model.sees(kind, x, bin));
     }

@@ -8,6 +8,7 @@ final class OffEdges {
         seesFull(e);
         forget(e);
         suspectsBeyond(e);
+        minusOneIsTold(e);
         howManySuspects(e);
         offByOne(e);
         boundsThatCanNotBeTold(e);
@@ -59,6 +60,7 @@ final class OffEdges {
         e.is("the sixth", x.sees(0, 0, 2), 6);
         e.is("it counts", x.suspects(0), 0);
         x.forget();
+        e.sentence(19, "SEEN (6 at most)");
         for (int i = 0; i < 6; i++) {
             x.sees(0, 0, 1);
         }
@@ -100,6 +102,15 @@ final class OffEdges {
     private static void suspectsBeyond(Edges e) {
         e.sentence(21, "NONE). NO: BAD.");
         e.beyondInEach("what", 0, 1, (x, n) -> x.suspects(n), NO);
+    }
+
+    private static void minusOneIsTold(Edges e) {
+        e.sentence(21, "What is BAD (NO) where -1 is told.");
+        CoinTrack x = Edges.laden();
+        e.is("-1 is an answer", x.suspects(1), -1);
+        e.is("what below", x.suspects(-1), NO);
+        e.is("what beyond", x.suspects(2), NO);
+        e.is("NO", CoinTrack.NO, NO);
     }
 
     private static void howManySuspects(Edges e) {
@@ -202,6 +213,7 @@ final class OffEdges {
             e.is("TEST " + test + ", 1 more", x.suspects(1), 2 * test + 1);
             e.is("TEST " + test + ", 1 more, alone", x.suspects(0), 1);
         }
+        e.sentence(21, "how many; the first of them (by these numbers); NONE.");
         CoinTrack two = Edges.told("coin 21 21 0 0 1; coin 9 9 0 0 1; hole 8 1; scale 8 1; hole 20 1; hole 20 1;");
         two.sees(1, 0, 1);
         e.is("of TEST 1 alone", two.suspects(1), 3);

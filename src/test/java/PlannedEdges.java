@@ -11,6 +11,7 @@ final class PlannedEdges {
         fewestByNone(e);
         manyWays(e);
         orderBeyond(e);
+        orderPlaces(e);
         orderNone(e);
         orderNotSoMany(e);
         orderOfLeastPrice(e);
@@ -129,8 +130,19 @@ final class PlannedEdges {
         e.is("-1 is not below", none.order(-1), NONE);
     }
 
+    private static void orderPlaces(Edges e) {
+        e.sentence(18, "ORDER: PRICE (k = -1), the TEST at the k-th place (0 on)");
+        CoinTrack x = Edges.told("coin 9 9 0 0 2; rim 1 9; rim 2 8; rim 0 7;");
+        e.is("k -1", x.order(-1), 14);
+        e.is("k 0", x.order(0), 2);
+        e.is("k 1", x.order(1), 0);
+        e.is("k 2, the last", x.order(2), 1);
+        e.is("k 3, beyond it", x.order(3), NONE);
+        e.is("k -2", x.order(-2), BAD);
+    }
+
     private static void orderNone(Edges e) {
-        e.sentence(18, "NONE: there is none, not so many.");
+        e.sentence(18, "NONE, if there is none.");
         CoinTrack x = Edges.told("coin 9 9 0 0 1; coin 9 9 0 0 1;" + Edges.times("rim1 1;", 6));
         for (int k = -1; k <= 7; k++) {
             e.is("there is none, k " + k, x.order(k), NONE);

@@ -12,6 +12,7 @@ final class ToldEdges {
         firstAndLastLetter(e);
         lettersBeyond(e);
         fullText(e);
+        letterByLetter(e);
         clear(e);
         itemsTold(e);
         textIsEmptyThen(e);
@@ -143,6 +144,24 @@ final class ToldEdges {
         e.is("149 are not full", blanks.count(5), 149);
         e.is("the 150th", blanks.type('x'), 150);
         e.is("it has a place of its own", blanks.tells(), -10 - 149);
+    }
+
+    private static void letterByLetter(Edges e) {
+        e.sentence(2, "THE TEXT is told letter by letter (150 letters at most)");
+        CoinTrack x = new CoinTrack();
+        for (int n = 1; n <= 150; n++) {
+            e.is("letter " + n, x.type("room1;".charAt((n - 1) % 6)), n);
+            e.is("letters behind letter " + n, x.count(5), n);
+        }
+        e.is("letter 151", x.type('r'), FULL);
+        e.is("in the order in which they came", x.tells(), 25);
+        CoinTrack between = Edges.typed(new CoinTrack(), "room ");
+        between.type(-1);
+        between.type('5');
+        between.type(256);
+        between.type(';');
+        e.is("refused ones are not among them", between.tells(), 1);
+        e.is("and leave no gap", between.count(2), 5);
     }
 
     // ---- promise 3
